@@ -682,10 +682,7 @@ public final class TapePress {
       kind = newKind;
       length = newLength;
       int blank = isPrimitive() ? newKind : A_NULL;
-      for (int k = 0; k < LONGEST; k++) {
-        whats[k] = blank;
-        values[k] = 0;
-      }
+      for (int k = 0; k < newLength; k++) fill(k, blank, 0);
     }
 
     void beLike(Row other) {
@@ -695,19 +692,22 @@ public final class TapePress {
       System.arraycopy(other.values, 0, values, 0, LONGEST);
     }
 
+    /** Sets an element to a value that this array accepts. */
     void hold(int place, int what, long v) {
-      boolean widen = isPrimitive();
-      whats[place] = widen ? kind : what;
-      values[place] = widen ? Numbers.widened(what, kind, v) : v;
+      if (isPrimitive()) fill(place, kind, Numbers.widened(what, kind, v));
+      else fill(place, what, v);
+    }
+
+    void fill(int place, int what, long v) {
+      whats[place] = what;
+      values[place] = v;
     }
 
     void exchange(int i, int j) {
       int what = whats[i];
       long v = values[i];
-      whats[i] = whats[j];
-      values[i] = values[j];
-      whats[j] = what;
-      values[j] = v;
+      fill(i, whats[j], values[j]);
+      fill(j, what, v);
     }
 
     void relink(int[] homes) {
@@ -792,7 +792,8 @@ public final class TapePress {
     /** The m of the number m * 2 to the power of (e - 3) that has these bits. */
     static long oddPart(int kind, long bits) {
       if (bits == 0) return 0;
-      long digits = digits(kind, bits);
+      long one = 1L << (kind == FLOAT ? FLOAT_FRACTION : DOUBLE_FRACTION);
+      long digits = bits & one - 1 | one;
       long odd = digits >> Long.numberOfTrailingZeros(digits);
       return bits < 0 ? -odd : odd;
     }
@@ -800,14 +801,10 @@ public final class TapePress {
     /** The e of the number m * 2 to the power of (e - 3) that has these bits. */
     static int powerPart(int kind, long bits) {
       if (bits == 0) return 0;
-      int zeros = Long.numberOfTrailingZeros(digits(kind, bits));
-      if (kind == FLOAT) return (int) (bits >> FLOAT_FRACTION & 255) - FLOAT_BIAS - FLOAT_FRACTION + 3 + zeros;
-      return (int) (bits >> DOUBLE_FRACTION & 2047) - DOUBLE_BIAS - DOUBLE_FRACTION + 3 + zeros;
-    }
-
-    private static long digits(int kind, long bits) {
-      long one = 1L << (kind == FLOAT ? FLOAT_FRACTION : DOUBLE_FRACTION);
-      return bits & one - 1 | one;
+      int room = kind == FLOAT ? FLOAT_FRACTION : DOUBLE_FRACTION;
+      int exponent = kind == FLOAT ? (int) (bits >> room & 255) - FLOAT_BIAS : (int) (bits >> room & 2047) - DOUBLE_BIAS;
+      // The digit before the fraction is not among the bits, and is always 1.
+      return exponent - room + 3 + Math.min(Long.numberOfTrailingZeros(bits), room);
     }
   }
 
@@ -970,11 +967,8 @@ public final class TapePress {
     private void writeNumber(int kind, long v) {
       boolean scaled = kind >= FLOAT;
       if (scaled) out.add(Numbers.powerPart(kind, v));
-      writeBytes(scaled ? Numbers.oddPart(kind, v) : v, Numbers.WIDTHS[kind]);
-    }
-
-    private void writeBytes(long v, int width) {
-      for (int k = width - 1; k >= 0; k--) out.add((int) (v >> 8 * k) & 255);
+      long whole = scaled ? Numbers.oddPart(kind, v) : v;
+      for (int k = Numbers.WIDTHS[kind] - 1; k >= 0; k--) out.add((int) (whole >> 8 * k) & 255);
     }
   }
 
@@ -1047,7 +1041,7 @@ public final class TapePress {
         boolean isArray = isArrayTag(tag);
         int number = used;
         if (!(isArray ? takeArray(tag) : takeElement(row.kind, tag))) return false;
-        row.hold(k, isArray ? AN_ARRAY : tag, isArray ? number : value);
+        row.fill(k, isArray ? AN_ARRAY : tag, isArray ? number : value);
       }
       return true;
     }
@@ -1110,7 +1104,7 @@ public final class TapePress {
     private boolean takeFlat(Row row) {
       for (int k = 0; k < row.length; k++) {
         if (!takeNumber(row.kind)) return false;
-        row.hold(k, row.kind, value);
+        row.fill(k, row.kind, value);
       }
       return true;
     }
@@ -1124,7 +1118,7 @@ public final class TapePress {
           place++;
           if (!takeNumber(row.kind)) return false;
         }
-        row.hold(k, row.kind, value);
+        row.fill(k, row.kind, value);
         run--;
       }
       return true;
@@ -1137,7 +1131,7 @@ public final class TapePress {
         if (!takeStep()) return false;
         number += value;
         if (!Numbers.fits(row.kind, number)) return failAt(start);
-        row.hold(k, row.kind, number);
+        row.fill(k, row.kind, number);
       }
       return true;
     }

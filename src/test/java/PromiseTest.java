@@ -564,6 +564,46 @@ public final class PromiseTest {
     dueWent(x, "sum of booleans", KIND, 0);
   }
 
+  /** Twelve elements, as many as an array can have, through all that goes over whole arrays. */
+  private static void longestRows() {
+    TapePress x = new TapePress();
+    x.make(BEAD, 0);
+    x.make(SHORT, 12);
+    x.make(WORDS, 12);
+    for (int k = 0; k < 12; k++) {
+      x.set(1, SHORT, k, 100 * k);
+      x.put(2, k, A_WORD, Words.code(NAMES[k % 5 + 3]));
+    }
+    x.drop(0);
+    due("shape into slot 0", x.shape(2, 1), 0);
+    due("size(0)", x.size(0), 12);
+    due("look(0, 11, 0)", x.look(0, 11, 0), INT);
+    due("look(0, 11, 1)", x.look(0, 11, 1), 1100);
+    x.drop(0);
+    due("convert into slot 0", x.convert(1, DOUBLE), 0);
+    due("look(0, 11, 1)", x.look(0, 11, 1), Double.doubleToLongBits(1100));
+    due("sum as int", x.sum(1, INT), 6600);
+    due("sum as float", x.sum(1, FLOAT), Float.floatToIntBits(6600));
+    due("sum as double", x.sum(0, DOUBLE), Double.doubleToLongBits(6600));
+    due("copyOf", x.copyOf(2), 3);
+    due("carry", x.carry(1, 0, 0, 0, 12), 12);
+    due("twin", x.twin(2), 4);
+    due("part", x.part(2, 4), NONE);
+    due("drop", x.drop(0), 4);
+    for (int m = 0; m <= 2; m++) {
+      x.mode(m);
+      x.cut(0);
+      x.lay(1);
+      due("readAs into slot 0", x.readAs(ANY), 0);
+      due("look(0, 11, 1)", x.look(0, 11, 1), 1100);
+      x.drop(0);
+      x.seek(0);
+      due("read into slot 0", x.read(), 0);
+      due("find", x.find(1), 0);
+      x.drop(0);
+    }
+  }
+
   // ---- the tape
 
   private static void mode() {
@@ -615,6 +655,12 @@ public final class PromiseTest {
     y.put(0, 3, AN_ARRAY, 2);
     y.lay(0);
     dueTape(y, 0, 29, 4, 20, 0, 20, 1, 0, 0, 0, 0, 11, 10, 1);
+    y.cut(0);
+    y.make(WORDS, 7);
+    for (int k = 0; k < 7; k++) y.put(3, k, A_WORD, Words.code("aaaaaaa".substring(k)));
+    due("lay of words of 7 to 1 letters", y.lay(3), 2 + 2 * 7 + 28);
+    due("skip() of them", y.skip(), 2 + 2 * 7 + 28);
+    dueTape(y, 41, 8, 1, 97);
   }
 
   private static void layForms() {
@@ -1223,6 +1269,8 @@ public final class PromiseTest {
       DUES.promise("promise " + (k + 1));
       PROMISES[k].run();
     }
+    DUES.promise("the longest arrays");
+    longestRows();
     DUES.promise("the tape");
     faults();
     DUES.end();
