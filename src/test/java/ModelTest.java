@@ -1,5 +1,3 @@
-import java.lang.reflect.InvocationTargetException;
-import java.lang.reflect.Method;
 import java.util.ArrayList;
 import java.util.Arrays;
 import java.util.HashMap;
@@ -16,17 +14,9 @@ public final class ModelTest {
     "find", "laid", "part", "hangs", "far", "twin", "called", "named", "count",
   };
 
-  private static final Map<String, Method> REAL = methods(TapePress.class);
-  private static final Map<String, Method> DUE = methods(Model.class);
+  private static final Face REAL = new Face(TapePress.class);
+  private static final Face DUE = new Face(Model.class);
   private static final Map<String, Integer> SEEN = new HashMap<>();
-
-  private static Map<String, Method> methods(Class<?> of) {
-    Map<String, Method> found = new HashMap<>();
-    for (Method method : of.getDeclaredMethods()) {
-      if (java.lang.reflect.Modifier.isPublic(method.getModifiers())) found.put(method.getName(), method);
-    }
-    return found;
-  }
 
   private final Dues dues;
   private final Random random;
@@ -41,23 +31,10 @@ public final class ModelTest {
     random = new Random(run * 7919L + 17);
   }
 
-  private static long invoke(Method method, Object on, long[] args) {
-    Object[] boxes = new Object[args.length];
-    Class<?>[] types = method.getParameterTypes();
-    for (int k = 0; k < args.length; k++) boxes[k] = types[k] == int.class ? (Object) (int) args[k] : (Object) args[k];
-    try {
-      return ((Number) method.invoke(on, boxes)).longValue();
-    } catch (InvocationTargetException e) {
-      throw new IllegalStateException(method.getName() + Arrays.toString(args) + " threw " + e.getCause(), e.getCause());
-    } catch (IllegalAccessException e) {
-      throw new IllegalStateException(e);
-    }
-  }
-
   private long call(String name, long... args) {
     String text = name + Arrays.toString(args);
-    long got = invoke(REAL.get(name), real, args);
-    long want = invoke(DUE.get(name), due, args);
+    long got = REAL.call(real, name, args);
+    long want = DUE.call(due, name, args);
     history.add(text + " -> " + got);
     SEEN.merge(name + " " + (want < 0 && want >= -10 ? want : 0), 1, Integer::sum);
     if (got != want && dues.wrong() == 0) {

@@ -15,6 +15,13 @@ final class Dues {
     System.out.println(promise + ": " + call + " answered " + got + ", due is " + want);
   }
 
+  void same(String what, String got, String want) {
+    asked++;
+    if (got.equals(want)) return;
+    wrong++;
+    System.out.println(promise + ": " + what + " is " + got + ", due is " + want);
+  }
+
   void fail(String text) {
     asked++;
     wrong++;
