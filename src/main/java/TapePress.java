@@ -872,7 +872,7 @@ public final class TapePress {
       for (int k = 0; k < SLOTS; k++) numbers[k] = -1;
       Row row = rows[index];
       if (row.isArray()) writeArray(index);
-      else writeElement(row.kind == WORD ? A_WORD : A_BEAD, row.values[0]);
+      else writeTagged(row.kind == WORD ? A_WORD : A_BEAD, row.values[0]);
     }
 
     /** Each array is written out only once, so no more than twelve of these calls stand open. */
@@ -892,14 +892,14 @@ public final class TapePress {
 
     private void writeObjects(Row row) {
       writeHead(FLAT, row);
-      for (int k = 0; k < row.length; k++) writeElement(row.whats[k], row.values[k]);
+      for (int k = 0; k < row.length; k++) {
+        if (row.whats[k] == AN_ARRAY) writeArray((int) row.values[k]);
+        else writeTagged(row.whats[k], row.values[k]);
+      }
     }
 
-    private void writeElement(int what, long v) {
-      if (what == AN_ARRAY) {
-        writeArray((int) v);
-        return;
-      }
+    /** Writes any value but an array. */
+    private void writeTagged(int what, long v) {
       out.add(what);
       if (what == A_WORD) writeLetters(v);
       else if (what == A_BEAD) out.add((int) v);

@@ -1,7 +1,6 @@
 import java.nio.file.Path;
 import java.util.ArrayList;
 import java.util.List;
-import java.util.Map;
 import java.util.regex.Matcher;
 import java.util.regex.Pattern;
 
@@ -10,12 +9,6 @@ import java.util.regex.Pattern;
  * The sentences and calls stand in src/test/boundaries; README.md there tells how they are written.
  */
 public final class BoundaryTest {
-  private static final Map<String, Long> NAMED = Map.ofEntries(
-      Map.entry("BAD", -1L), Map.entry("NO", -2L), Map.entry("FULL", -3L), Map.entry("NONE", -4L),
-      Map.entry("NOTHING", -5L), Map.entry("NOROW", -6L), Map.entry("OPEN", -7L), Map.entry("PLACE", -8L),
-      Map.entry("KIND", -9L), Map.entry("FAULT", -10L),
-      Map.entry("INT_MIN", (long) Integer.MIN_VALUE), Map.entry("INT_MAX", (long) Integer.MAX_VALUE),
-      Map.entry("LONG_MIN", Long.MIN_VALUE), Map.entry("LONG_MAX", Long.MAX_VALUE));
   private static final Pattern CALL = Pattern.compile("(\\w+)\\(([^)]*)\\)(?: = (\\S+))?(?: ! (\\S+) (\\S+))?");
   // The words of the document that name no boundary case; no calls stand behind them.
   private static final String PLAIN = "plain.txt";
@@ -29,20 +22,11 @@ public final class BoundaryTest {
     press = new Watched(dues);
   }
 
-  /** A number, a constant, a word as 'cab', or the bits of a float or double as f:0.125 or d:0.125. */
-  private static long value(String text) {
-    if (NAMED.containsKey(text)) return NAMED.get(text);
-    if (text.startsWith("'")) return Words.code(text.substring(1, text.length() - 1));
-    if (text.startsWith("f:")) return Float.floatToIntBits(Float.parseFloat(text.substring(2)));
-    if (text.startsWith("d:")) return Double.doubleToLongBits(Double.parseDouble(text.substring(2)));
-    return Long.parseLong(text);
-  }
-
   private static long[] values(String text, String between) {
     if (text.isBlank()) return new long[0];
     String[] parts = text.trim().split(between);
     long[] values = new long[parts.length];
-    for (int k = 0; k < parts.length; k++) values[k] = value(parts[k].trim());
+    for (int k = 0; k < parts.length; k++) values[k] = Values.of(parts[k].trim());
     return values;
   }
 
@@ -53,7 +37,7 @@ public final class BoundaryTest {
     for (String part : text.trim().split("\\s+")) {
       int star = part.indexOf('*');
       int times = star < 0 ? 1 : Integer.parseInt(part.substring(0, star));
-      for (int k = 0; k < times; k++) bytes.add(value(part.substring(star + 1)));
+      for (int k = 0; k < times; k++) bytes.add(Values.of(part.substring(star + 1)));
     }
     return bytes;
   }
@@ -82,10 +66,10 @@ public final class BoundaryTest {
     String name = call.group(1);
     long[] args = values(call.group(2), ",");
     if (!FACE.has(name, args.length)) throw new IllegalStateException("no such method: " + text);
-    Long result = call.group(4) == null ? null : value(call.group(4));
-    Long spot = call.group(5) == null ? null : value(call.group(5));
+    Long result = call.group(4) == null ? null : Values.of(call.group(4));
+    Long spot = call.group(5) == null ? null : Values.of(call.group(5));
     long answer = press.call(name, args, result, spot);
-    if (call.group(3) != null) dues.due(text, answer, value(call.group(3)));
+    if (call.group(3) != null) dues.due(text, answer, Values.of(call.group(3)));
     else if (answer < 0 && answer != TapePress.NONE) dues.fail(text + ", a preparation, answered " + answer);
   }
 
@@ -114,7 +98,7 @@ public final class BoundaryTest {
     for (String part : sides[1].trim().split("\\s+")) {
       if (part.isEmpty()) continue;
       String[] pair = part.split(":", 2);
-      want.add(pair[0] + ":" + value(pair[1]));
+      want.add(pair[0] + ":" + Values.of(pair[1]));
     }
     List<String> seen = press.picture().slots.get(Integer.parseInt(sides[0].trim()));
     dues.same("cells " + text, seen.subList(1, seen.size()).toString(), want.toString());
@@ -126,13 +110,13 @@ public final class BoundaryTest {
       press = new Watched(dues);
       append(bytes(parts[1]));
     }
-    fault(value(parts[0]));
+    fault(Values.of(parts[0]));
   }
 
   /** "sound 4" tells of the item at the read position, "sound of 8 2 97 98" of these bytes in a new object. */
   private void soundIn(String[] parts) {
     if (parts.length == 1) {
-      sound(value(parts[0]));
+      sound(Values.of(parts[0]));
       return;
     }
     press = new Watched(dues);

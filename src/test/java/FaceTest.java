@@ -98,6 +98,16 @@ public final class FaceTest {
     }
   }
 
+  /** Rule 11: the calls that are open at once, but for those of a recursion, are eight at the most. */
+  private static void callDepth() throws IOException {
+    Calls calls = new Calls(Files.readAllLines(Path.of("src/main/java/TapePress.java")));
+    due("the methods found in the source", calls.methods().size() > METHODS.size());
+    for (String method : calls.methods()) {
+      List<String> chain = calls.longestFrom(method);
+      if (chain.size() > 8) DUES.fail("rule 11: " + chain.size() + " calls deep: " + chain);
+    }
+  }
+
   /** No call makes an object: what a run makes is only its TapePress. */
   private static void nothingMade() {
     com.sun.management.ThreadMXBean bean =
@@ -164,6 +174,7 @@ public final class FaceTest {
     fields();
     DUES.promise("the language");
     source();
+    callDepth();
     nothingMade();
     DUES.end();
   }
